@@ -287,11 +287,12 @@ public final class StoryClasses {
 
         /** Asked only while some row has no body: then at most eleven bodies are used. */
         private int freeBody() {
-            int body = 0;
-            while (body < MOST_ROWS - 1 && uses[body] != 0) {
-                body++;
+            for (int body = 0; body < MOST_ROWS - 1; body++) {
+                if (uses[body] == 0) {
+                    return body;
+                }
             }
-            return body;
+            return MOST_ROWS - 1;
         }
 
         private void attach(int r, int body) {
@@ -330,11 +331,12 @@ public final class StoryClasses {
         }
 
         int leastSame(int r) {
-            int s = 0;
-            while (s < r && bodies[s] != bodies[r]) {
-                s++;
+            for (int s = 0; s < r; s++) {
+                if (bodies[s] == bodies[r]) {
+                    return s;
+                }
             }
-            return s;
+            return r;
         }
 
         int reach(int r, long i) {
@@ -881,8 +883,7 @@ public final class StoryClasses {
             Frame first = openFrame(number, routine);
             first.setLocal(0, x);
             first.setLocal(1, y);
-            while (steps < MOST_STEPS && outcome == RUNNING) {
-                steps++;
+            for (int i = 0; i < MOST_STEPS && outcome == RUNNING; i++) {
                 step(frames[open - 1]);
             }
             if (outcome == RUNNING) {
@@ -917,6 +918,7 @@ public final class StoryClasses {
 
         /** One op. What it calls or ends changes which frame is open last, and that one goes on. */
         private void step(Frame f) {
+            steps++;
             f.next = f.place + 1;
             int code = act(f, f.routine.codes[f.place], f.routine.as[f.place], f.routine.bs[f.place]);
             if (code == FINE && open > 0) {
@@ -941,7 +943,7 @@ public final class StoryClasses {
 
         /** The fault comes on from routine to routine until a guard takes it or a last begins. */
         private void passOn() {
-            while (open > 0) {
+            for (; open > 0; open--) {
                 Frame f = frames[open - 1];
                 int handler = f.routine.handlerOf(f.place, fault.code);
                 if (handler != NONE) {
@@ -954,7 +956,6 @@ public final class StoryClasses {
                     f.place = f.next;
                     return;
                 }
-                open--;
             }
             outcome = FAULTED;
         }

@@ -9,6 +9,7 @@ public final class KeepTest {
         sevenths();
         rowsComeBack();
         sharedRows();
+        rowsAfterBringingBack();
         thingsComeBack();
         thingsThatCameSince();
         latestFirst();
@@ -135,6 +136,30 @@ public final class KeepTest {
         c.due("28 still used by the other", x.miss(3), 1);
         c.due("28 a new one beside it", x.row(0, 5, 12), 12);
         c.due("28 a new one beside it", x.item(5, 0), 4);
+    }
+
+    /** What came back is apart from what is made new then, whatever was there between. */
+    private static void rowsAfterBringingBack() {
+        StoryClasses x = new StoryClasses();
+        int keep = keeper(x);
+        int back = bringer(x);
+        for (int r = 0; r < 6; r++) {
+            x.row(r, 5, 1);
+            x.put(r, 0, r + 1);
+        }
+        plays("27", x, keep, 1);
+        for (int r = 0; r < 12; r++) {
+            x.miss(r);
+        }
+        plays("28", x, back, 1);
+        for (int r = 6; r < 12; r++) {
+            x.row(r, 5, 1);
+            x.put(r, 0, r + 1);
+        }
+        for (int r = 0; r < 12; r++) {
+            c.due("28 apart", x.item(r, 0), r + 1);
+            c.due("28 apart", x.about(r, 2), r);
+        }
     }
 
     private static void thingsComeBack() {

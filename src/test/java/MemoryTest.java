@@ -55,9 +55,13 @@ public final class MemoryTest {
         c.due("2 ARGUMENT", x.row(0, 4, 13), -17);
         c.due("2 ARGUMENT", x.row(0, 4, Integer.MAX_VALUE), -17);
         c.due("2 refused changes nothing", x.about(0, 1), 0);
-        c.due("2 put", x.put(0, 3, 1), 1);
+        for (int i = 0; i < 12; i++) {
+            c.due("2 put", x.put(0, i, 1), 1);
+        }
         c.due("2 new one", x.row(0, 0, 12), 12);
-        c.due("2 its items are 0", x.item(0, 3), 0);
+        for (int i = 0; i < 12; i++) {
+            c.due("2 its items are 0", x.item(0, i), 0);
+        }
     }
 
     private static void miss() {

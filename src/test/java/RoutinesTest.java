@@ -22,6 +22,11 @@ public final class RoutinesTest {
             c.due("19 locals", x.count(4, i), 1 + i % 6);
         }
         c.due("10 full", x.routine(1), FULL);
+        c.due("11 no 13th", x.op(12, 0, 0, 0), BAD);
+        c.due("12 no 13th", x.guard(12, 0, 1, 0, 0), BAD);
+        c.due("13 no 13th", x.last(12, 0), BAD);
+        c.due("14 no 13th", x.run(12, 0, 0), BAD);
+        c.due("19 no 13th", x.count(4, 12), BAD);
         c.due("10 bad before full", x.routine(0), BAD);
     }
 

@@ -126,6 +126,10 @@ public final class RunTest {
         c.due("19 others are 0", x.output(2), 0);
         c.due("19 others are 0 again", x.output(5), 0);
         c.due("16 open", x.told(7), 2);
+        int wide = Check.routine(x, 3, op(1, 1), op(20));
+        int used = Check.routine(x, 1, op(0, 1), op(0, 2), op(0, 3), op(26), op(26), op(19, wide, 1), op(20));
+        c.due("19 others are 0, whatever lay there", x.run(used, 0, 0), 0);
+        c.due("19 others are 0, whatever lay there", x.result(), 0);
         int rest = Check.routine(x, 2, op(0, 1), op(0, 2), op(0, 3), op(20));
         int outer = Check.routine(x, 2, op(0, 10), op(19, rest, 0), op(4), op(20));
         c.due("19 piles are apart", x.run(outer, 0, 0), 0);
@@ -205,6 +209,12 @@ public final class RunTest {
         x.guard(v, 0, 1, 0, 2);
         c.due("without to", x.run(v, 5, 0), 1);
         c.due("without to", x.number(), 5);
+        int w = Check.routine(x, 1, op(1, 0), op(21));
+        for (int i = 0; i < 4; i++) {
+            x.guard(w, 1, 2, 1 + i, 0);
+        }
+        c.due("four guards, none takes it", x.run(w, 5, 0), 1);
+        c.due("four guards, none takes it", x.told(5), 0);
     }
 
     private static void guardsOfCallers() {
@@ -293,6 +303,13 @@ public final class RunTest {
         c.due("guard in LAST", x.result(), 5);
         c.due("guard in LAST", x.output(0), ZERO);
         tolds("guard in LAST", x, 0, NONE, NONE, 7, 1, 1, 1, 1);
+        // So does a fault that was put aside.
+        int q = Check.routine(x, 1, op(0, 5), op(21), op(0, 1), op(0, 0), op(6), op(26), op(22));
+        x.last(q, 2);
+        x.guard(q, 2, 5, ZERO, 5);
+        c.due("guard in LAST of a fault", x.run(q, 0, 0), 1);
+        tolds("guard in LAST of a fault", x, OWN, q, 1, 7, 2, 1, 1, 1);
+        c.due("guard in LAST of a fault", x.number(), 5);
         // The guard comes before LAST; no guard is asked at LEAVE.
         int s = Check.routine(x, 1, op(0, 5), op(21), op(0, 6), op(21), op(26), op(22));
         x.last(s, 4);
@@ -318,6 +335,13 @@ public final class RunTest {
         c.due("LAST as it is open now", x.result(), 11);
         c.due("LAST began twice", x.told(6), 2);
         c.due("LAST was done twice", x.count(3, 0), 2);
+        // The same place of opening: first a fault is put aside there, then a number.
+        int u = Check.routine(x, 1, op(1, 0), op(21), op(22));
+        x.last(u, 2);
+        int v = Check.routine(x, 1, op(0, 5), op(19, u, 1), op(0, 6), op(19, r, 1), op(20));
+        x.guard(v, 1, 2, OWN, 2);
+        c.due("a number after a fault", x.run(v, 0, 0), 0);
+        c.due("a number after a fault", x.result(), 6);
         c.due("and in the next run", x.run(r, 9, 0), 0);
         c.due("and in the next run", x.told(6), 1);
     }

@@ -10,6 +10,7 @@ public final class ThingsTest {
         of();
         weigh();
         take();
+        ownNumbers();
         glow();
         open();
         marks();
@@ -121,6 +122,19 @@ public final class ThingsTest {
         answers("23 lantern", x, 1, LANTERN, 20, 20);
         answers("23 lantern answers its mark", x, 1, LANTERN, 5, 5);
         c.due("23 lantern count", x.of(LANTERN, 1), 25);
+    }
+
+    private static void ownNumbers() {
+        StoryClasses x = all();
+        int r = Check.routine(x, 1, lay(7), Check.op(21), lay(CRATE), lay(10), Check.op(23, 1));
+        x.guard(r, 1, 2, OWN, 2);
+        c.due("23 OWN with 50 after another", x.run(r, 0, 0), 1);
+        c.due("23 OWN with 50 after another", x.number(), 50);
+        int s = Check.routine(x, 1, lay(CRATE), lay(10), Check.op(23, 1), lay(7), lay(CRATE), Check.op(23, 0),
+            Check.op(26), Check.op(21));
+        x.guard(s, 2, 3, OWN, 3);
+        c.due("21 OWN with its own after that", x.run(s, 0, 0), 1);
+        c.due("21 OWN with its own after that", x.number(), 7);
     }
 
     private static void glow() {
