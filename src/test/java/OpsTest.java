@@ -224,6 +224,11 @@ public final class OpsTest {
         c.faults("14 NOTHING before PILE", x, NOTHING, 8, eight);
         eight[8] = Check.op(3);
         c.faults("3 takes first", x, BEHIND, 8, eight);
+        x.row(1, 4, 8);
+        eight[8] = Check.op(12, 1, 4);
+        c.faults("12 takes first", x, BEHIND, 8, eight);
+        eight[8] = Check.op(17, 1, 4);
+        c.faults("17 takes first", x, BEHIND, 8, eight);
         eight[8] = Check.op(27);
         int keeps = Check.routine(x, 1, eight);
         for (int i = 1; i <= 3; i++) {
