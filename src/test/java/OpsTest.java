@@ -211,7 +211,8 @@ public final class OpsTest {
         for (int i = 0; i < 8; i++) {
             eight[i] = Check.op(0, i);
         }
-        int[][] laying = {Check.op(0, 1), Check.op(1, 0), Check.op(14, 0), Check.op(28), Check.op(27), Check.op(19, 1, 0)};
+        int[][] laying = {Check.op(0, 1), Check.op(1, 0), Check.op(14, 0), Check.op(28), Check.op(27),
+            Check.op(19, 1, 0)};
         for (int[] op : laying) {
             StoryClasses x = new StoryClasses();
             x.row(0, 4, 1);

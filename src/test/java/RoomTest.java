@@ -22,7 +22,7 @@ public final class RoomTest {
         int keeps = Check.routine(x, 1, Check.op(27), Check.op(26), Check.op(28), Check.op(26), Check.op(10, 0));
         play(x, rows, calls, keeps, 10);
         before = made();
-        play(x, rows, calls, keeps, 150);
+        play(x, rows, calls, keeps, 100);
         after = made();
         c.due("runs make nothing: " + (after - before), after - before < 2_000 ? 1 : 0, 1);
         c.end();

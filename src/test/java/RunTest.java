@@ -28,12 +28,6 @@ public final class RunTest {
         return Check.op(numbers);
     }
 
-    private static void tolds(String what, StoryClasses x, int... want) {
-        for (int i = 0; i < want.length; i++) {
-            c.due(what + ": told " + i, x.told(i), want[i]);
-        }
-    }
-
     private static void runRefused() {
         StoryClasses x = new StoryClasses();
         int r = Check.routine(x, 1, op(0, 5), op(26), op(0, 6), op(20));
@@ -43,7 +37,7 @@ public final class RunTest {
         c.due("14 no such", x.run(2, 0, 0), BAD);
         c.due("14 no such", x.run(-1, 0, 0), BAD);
         c.due("15 stays", x.result(), 6);
-        tolds("16 stays", x, 0, NONE, NONE, 4, 0, 0, 0, 1);
+        c.tolds("16 stays", x, 0, NONE, NONE, 4, 0, 0, 0, 1);
         c.due("16 low", x.told(-1), BAD);
         c.due("16 high", x.told(8), BAD);
     }
@@ -53,15 +47,15 @@ public final class RunTest {
         Check.routine(x, 1, op(1, 0), op(21));
         int r = Check.routine(x, 1, op(0, 1), op(26), op(1, 0), op(19, 0, 1), op(20));
         c.due("14 FAULT", x.run(r, -77, 0), 1);
-        tolds("16 where it came first", x, OWN, 0, 1, 6, 1, 0, 0, 2);
+        c.tolds("16 where it came first", x, OWN, 0, 1, 6, 1, 0, 0, 2);
         c.due("17 number", x.number(), -77);
         c.due("15 nothing", x.result(), 0);
         int s = Check.routine(x, 1, op(0, 1), op(0, 0), op(6));
         c.due("14 FAULT", x.run(s, 0, 0), 1);
         c.due("17 others 0", x.number(), 0);
-        tolds("16", x, ZERO, s, 2, 3, 1, 0, 0, 1);
+        c.tolds("16", x, ZERO, s, 2, 3, 1, 0, 0, 1);
         c.returns("15", x, 9, op(0, 9), op(20));
-        tolds("16 none", x, 0, NONE, NONE, 2, 0, 0, 0, 1);
+        c.tolds("16 none", x, 0, NONE, NONE, 2, 0, 0, 0, 1);
     }
 
     private static void spentBySteps() {
@@ -76,14 +70,14 @@ public final class RunTest {
         int s = Check.routine(y, 2, op(1, 0), op(11, 7), op(1, 0), op(0, 1), op(4), op(2, 0), op(10, 0), op(10, 8),
             op(10, 9), op(10, 10), op(0, 8), op(20));
         c.due("14 the 301st would be", y.run(s, 42, 0), 2);
-        tolds("16 spent", y, 0, NONE, NONE, 300, 0, 0, 0, 1);
+        c.tolds("16 spent", y, 0, NONE, NONE, 300, 0, 0, 0, 1);
         c.due("15 nothing", y.result(), 0);
         // The 300th falls behind: that is a fault at it, not a step more.
         StoryClasses z = new StoryClasses();
         int t = Check.routine(z, 2, op(1, 0), op(11, 7), op(1, 0), op(0, 1), op(4), op(2, 0), op(10, 0), op(10, 8),
             op(10, 9), op(10, 10), op(10, 29));
         c.due("14 the 300th falls behind", z.run(t, 42, 0), 1);
-        tolds("16 behind", z, BEHIND, 0, 10, 300, 1, 0, 0, 1);
+        c.tolds("16 behind", z, BEHIND, 0, 10, 300, 1, 0, 0, 1);
     }
 
     private static void spentByFaults() {
@@ -91,7 +85,7 @@ public final class RunTest {
         int r = Check.routine(x, 2, op(1, 0), op(21));
         x.guard(r, 0, 2, 0, 0);
         c.due("14 the 25th fault", x.run(r, 5, 0), 2);
-        tolds("16 spent", x, 0, NONE, NONE, 50, 25, 24, 0, 1);
+        c.tolds("16 spent", x, 0, NONE, NONE, 50, 25, 24, 0, 1);
         c.due("17 none", x.number(), 0);
         // Faults that come on at calls are not counted.
         StoryClasses y = new StoryClasses();
@@ -100,7 +94,7 @@ public final class RunTest {
             op(10, 0), op(0, 4), op(20));
         y.guard(caller, 0, 1, OWN, 1);
         c.due("14 24 faults", y.run(caller, 24, 0), 0);
-        tolds("16 24 faults", y, 0, NONE, NONE, 24 * 10 - 1 + 2, 24, 24, 0, 2);
+        c.tolds("16 24 faults", y, 0, NONE, NONE, 24 * 10 - 1 + 2, 24, 24, 0, 2);
         // A last is not begun, no output comes, once the 25th has come.
         StoryClasses z = new StoryClasses();
         int l = Check.routine(z, 2, op(1, 0), op(0, 0), op(6), op(0, 1), op(26), op(22));
@@ -109,7 +103,7 @@ public final class RunTest {
         z.guard(m, 6, 8, 0, 0);
         z.last(l, 3);
         c.due("14 24 before", z.run(m, 25, 0), 2);
-        tolds("16 the 25th in the called", z, 0, NONE, NONE, 24 * 8 + 7 + 3, 25, 24, 0, 2);
+        c.tolds("16 the 25th in the called", z, 0, NONE, NONE, 24 * 8 + 7 + 3, 25, 24, 0, 2);
         c.due("18 no output", z.count(3, 0), 0);
     }
 
@@ -164,11 +158,12 @@ public final class RunTest {
         c.due("19 12 open", x.result(), 3);
         c.due("16 12 open", x.told(7), 12);
         c.due("19 a 13th", x.run(r, 12, 0), 1);
-        tolds("16 DEEP", x, DEEP, 0, 5, 72, 1, 0, 0, 12);
+        c.tolds("16 DEEP", x, DEEP, 0, 5, 72, 1, 0, 0, 12);
         int wrong = Check.routine(x, 1, op(19, 1, 0), op(0, 1), op(0, 2), op(19, 0, 2));
         x.guard(wrong, 0, 1, DEEP, 1);
         c.due("19 ARGUMENT before DEEP", x.run(wrong, 0, 0), 1);
         c.due("19 ARGUMENT before DEEP", x.told(0), ARGUMENT);
+        c.due("19 ARGUMENT before DEEP, where 12 are open", x.told(4), 2);
     }
 
     private static void behindAfterACall() {
@@ -176,12 +171,12 @@ public final class RunTest {
         int callee = Check.routine(x, 1, op(0, 1), op(20));
         int caller = Check.routine(x, 1, op(10, 4), op(26), op(26), op(10, 9), op(19, callee, 0));
         c.due("BEHIND at the call", x.run(caller, 0, 0), 1);
-        tolds("BEHIND at the call", x, BEHIND, caller, 4, 4, 1, 0, 0, 2);
+        c.tolds("BEHIND at the call", x, BEHIND, caller, 4, 4, 1, 0, 0, 2);
         x.guard(caller, 4, 5, BEHIND, 1);
         c.due("BEHIND is taken", x.run(caller, 0, 0), 1);
         c.due("18 CODE", x.output(0), BEHIND);
         c.due("18 NUMBER", x.output(1), 0);
-        tolds("BEHIND is taken", x, BEHIND, caller, 3, 7, 2, 1, 0, 2);
+        c.tolds("BEHIND is taken", x, BEHIND, caller, 3, 7, 2, 1, 0, 2);
     }
 
     private static void guards() {
@@ -195,11 +190,11 @@ public final class RunTest {
         c.due("the first that takes it", x.result(), 1);
         c.due("CODE is laid last", x.output(0), OWN);
         c.due("NUMBER is laid first", x.output(1), 123);
-        tolds("guard", x, 0, NONE, NONE, 7, 1, 1, 0, 1);
+        c.tolds("guard", x, 0, NONE, NONE, 7, 1, 1, 0, 1);
         int s = Check.routine(x, 1, op(0, 9), op(1, 0), op(21), op(26), op(26), op(26));
         x.guard(s, 2, 3, 0, 3);
         c.due("the pile was emptied", x.run(s, 5, 0), 1);
-        tolds("the pile was emptied", x, PILE, s, 5, 6, 2, 1, 0, 1);
+        c.tolds("the pile was emptied", x, PILE, s, 5, 6, 2, 1, 0, 1);
         int u = Check.routine(x, 1, op(1, 0), op(21), op(0, 1), op(20), op(0, 2), op(20));
         x.guard(u, 0, 2, 0, 2);
         x.guard(u, 0, 2, OWN, 4);
@@ -227,7 +222,7 @@ public final class RunTest {
         c.due("taken by the caller", x.run(d, 0, 0), 0);
         c.due("NUMBER", x.result(), 31);
         c.due("CODE", x.output(0), OWN);
-        tolds("taken by the caller", x, 0, NONE, NONE, 7, 1, 1, 0, 3);
+        c.tolds("taken by the caller", x, 0, NONE, NONE, 7, 1, 1, 0, 3);
     }
 
     private static void lastOfReturn() {
@@ -237,11 +232,11 @@ public final class RunTest {
         c.due("LAST, LEAVE", x.run(r, 0, 0), 0);
         c.due("what was put aside", x.result(), 7);
         c.due("LAST is done", x.output(0), 1);
-        tolds("LAST", x, 0, NONE, NONE, 6, 0, 0, 1, 1);
+        c.tolds("LAST", x, 0, NONE, NONE, 6, 0, 0, 1, 1);
         int s = Check.routine(x, 1, op(0, 8), op(0, 7), op(20), op(26));
         x.last(s, 3);
         c.due("the pile is emptied", x.run(s, 0, 0), 1);
-        tolds("the pile is emptied", x, PILE, s, 3, 4, 1, 0, 1, 1);
+        c.tolds("the pile is emptied", x, PILE, s, 3, 4, 1, 0, 1, 1);
         int u = Check.routine(x, 1, op(0, 7), op(20));
         x.last(u, 2);
         c.due("no op at LAST", x.run(u, 0, 0), 0);
@@ -260,7 +255,7 @@ public final class RunTest {
         int r = Check.routine(x, 1, op(0, 5), op(21), op(0, 1), op(26), op(22));
         x.last(r, 2);
         c.due("put aside", x.run(r, 0, 0), 1);
-        tolds("put aside", x, OWN, r, 1, 5, 1, 0, 1, 1);
+        c.tolds("put aside", x, OWN, r, 1, 5, 1, 0, 1, 1);
         c.due("NUMBER", x.number(), 5);
         c.due("LAST is done", x.output(0), 1);
         int s = Check.routine(x, 1, op(19, r, 0), op(26), op(26), op(0, 3), op(20));
@@ -268,10 +263,10 @@ public final class RunTest {
         c.due("LEAVE passes it on", x.run(s, 0, 0), 0);
         c.due("CODE", x.output(1), OWN);
         c.due("NUMBER", x.output(2), 5);
-        tolds("LEAVE passes it on", x, 0, NONE, NONE, 10, 1, 1, 1, 2);
+        c.tolds("LEAVE passes it on", x, 0, NONE, NONE, 10, 1, 1, 1, 2);
         int u = Check.routine(x, 1, op(19, r, 0));
         c.due("where it came first", x.run(u, 0, 0), 1);
-        tolds("where it came first", x, OWN, r, 1, 6, 1, 0, 1, 2);
+        c.tolds("where it came first", x, OWN, r, 1, 6, 1, 0, 1, 2);
     }
 
     private static void lastInLast() {
@@ -280,16 +275,16 @@ public final class RunTest {
         x.last(r, 2);
         c.due("RETURN instead of a fault", x.run(r, 0, 0), 0);
         c.due("RETURN instead of a fault", x.result(), 1);
-        tolds("RETURN instead of a fault", x, 0, NONE, NONE, 4, 1, 0, 1, 1);
+        c.tolds("RETURN instead of a fault", x, 0, NONE, NONE, 4, 1, 0, 1, 1);
         int s = Check.routine(x, 1, op(0, 5), op(20), op(0, 1), op(0, 0), op(6));
         x.last(s, 2);
         c.due("fault instead of a RETURN", x.run(s, 0, 0), 1);
-        tolds("fault instead of a RETURN", x, ZERO, s, 4, 5, 1, 0, 1, 1);
+        c.tolds("fault instead of a RETURN", x, ZERO, s, 4, 5, 1, 0, 1, 1);
         c.due("fault instead of a RETURN", x.result(), 0);
         int u = Check.routine(x, 1, op(0, 5), op(21), op(0, 6), op(21));
         x.last(u, 2);
         c.due("fault instead of a fault", x.run(u, 0, 0), 1);
-        tolds("fault instead of a fault", x, OWN, u, 3, 4, 2, 0, 1, 1);
+        c.tolds("fault instead of a fault", x, OWN, u, 3, 4, 2, 0, 1, 1);
         c.due("fault instead of a fault", x.number(), 6);
     }
 
@@ -302,13 +297,13 @@ public final class RunTest {
         c.due("guard in LAST", x.run(r, 0, 0), 0);
         c.due("guard in LAST", x.result(), 5);
         c.due("guard in LAST", x.output(0), ZERO);
-        tolds("guard in LAST", x, 0, NONE, NONE, 7, 1, 1, 1, 1);
+        c.tolds("guard in LAST", x, 0, NONE, NONE, 7, 1, 1, 1, 1);
         // So does a fault that was put aside.
         int q = Check.routine(x, 1, op(0, 5), op(21), op(0, 1), op(0, 0), op(6), op(26), op(22));
         x.last(q, 2);
         x.guard(q, 2, 5, ZERO, 5);
         c.due("guard in LAST of a fault", x.run(q, 0, 0), 1);
-        tolds("guard in LAST of a fault", x, OWN, q, 1, 7, 2, 1, 1, 1);
+        c.tolds("guard in LAST of a fault", x, OWN, q, 1, 7, 2, 1, 1, 1);
         c.due("guard in LAST of a fault", x.number(), 5);
         // The guard comes before LAST; no guard is asked at LEAVE.
         int s = Check.routine(x, 1, op(0, 5), op(21), op(0, 6), op(21), op(26), op(22));
@@ -316,13 +311,13 @@ public final class RunTest {
         x.guard(s, 0, 2, OWN, 2);
         x.guard(s, 4, 6, OWN, 2);
         c.due("no guard at LEAVE", x.run(s, 0, 0), 1);
-        tolds("26 in LAST has no number", x, PILE, s, 4, 5, 3, 1, 1, 1);
+        c.tolds("26 in LAST has no number", x, PILE, s, 4, 5, 3, 1, 1, 1);
         int u = Check.routine(x, 1, op(0, 5), op(21), op(0, 6), op(21), op(22));
         x.last(u, 4);
         x.guard(u, 0, 2, OWN, 2);
         x.guard(u, 4, 5, 0, 2);
         c.due("no guard at LEAVE", x.run(u, 0, 0), 1);
-        tolds("no guard at LEAVE", x, OWN, u, 3, 5, 2, 1, 1, 1);
+        c.tolds("no guard at LEAVE", x, OWN, u, 3, 5, 2, 1, 1, 1);
         c.due("no guard at LEAVE", x.number(), 6);
     }
 
@@ -353,6 +348,6 @@ public final class RunTest {
         int r = Check.routine(x, 1, op(22));
         x.last(r, 0);
         c.due("22 twice", x.run(r, 0, 0), 1);
-        tolds("22 twice", x, BEHIND, r, 0, 2, 1, 0, 1, 1);
+        c.tolds("22 twice", x, BEHIND, r, 0, 2, 1, 0, 1, 1);
     }
 }
