@@ -2,8 +2,10 @@ import java.util.Random;
 
 /** Many stories told at random, the same each time, to the class and to the model: all answers are the same. */
 public final class ModelTest {
-    private static final int STORIES = 6000;
+    private static final int STORIES = 9000;
     private static final int CALLS = 512;
+    // So many are left for the end, when the stories are compared.
+    private static final int LEFT = 150;
     private static final Check c = new Check();
     private static final long[] ENDS = {0, 1, -1, 2, 3, 9, 10, 12, 13, 127, 128, 255, 256, 32767, 32768, 65535, 65536,
         16777217, 33554435, Integer.MAX_VALUE, Integer.MIN_VALUE, 1L << 32, 9007199254740993L, Long.MAX_VALUE,
@@ -72,7 +74,7 @@ public final class ModelTest {
         for (int i = 0; i < routines; i++) {
             routine();
         }
-        while (calls < CALLS - 60) {
+        while (calls < CALLS - LEFT) {
             switch (below(8)) {
                 case 0:
                     row();
@@ -91,7 +93,7 @@ public final class ModelTest {
                     break;
             }
         }
-        compareAll();
+        compare();
     }
 
     private void thing() {
@@ -170,7 +172,7 @@ public final class ModelTest {
         }
         int n = 4 + below(28);
         int height = 0;
-        for (int i = 0; i < n && calls < CALLS - 60; i++) {
+        for (int i = 0; i < n && calls < CALLS - LEFT; i++) {
             int[] o = randomOp(locals);
             int takes = o[0] == 19 ? o[2] : o[0] == 23 && (o[1] == 1 || o[1] >= 6) ? 2 : TAKES[o[0]];
             if ((takes > height || height > 6 && takes == 0) && !one(12)) {
@@ -216,14 +218,14 @@ public final class ModelTest {
     }
 
     private void run(int[] codes) {
-        int r = near(0, Math.max(0, x.count(1, 0) - 1));
+        int r = near(0, Math.max(0, m.count(1, 0) - 1));
         long p = value();
         long q = value();
         int got = x.run(r, p, q);
         same("run", got, m.run(r, p, q));
         if (got >= 0) {
             seen[got]++;
-            codes[x.told(0)]++;
+            codes[m.told(0)]++;
         }
         same("result", x.result(), m.result());
         same("number", x.number(), m.number());
@@ -237,23 +239,28 @@ public final class ModelTest {
         }
     }
 
-    private void compareAll() {
-        for (int r = 0; r < 12; r++) {
-            for (int what = 0; what < 3; what++) {
-                same("about", x.about(r, what), m.about(r, what));
+    /** Asks for all kinds of things, here and there, until no call is left. */
+    private void compare() {
+        while (calls < CALLS) {
+            int r = below(12);
+            int i = below(12);
+            switch (below(5)) {
+                case 0:
+                    same("about", x.about(r, i % 3), m.about(r, i % 3));
+                    break;
+                case 1:
+                    same("item", x.item(r, i), m.item(r, i));
+                    break;
+                case 2:
+                    same("of", x.of(r, i), m.of(r, i));
+                    break;
+                case 3:
+                    same("count", x.count(i % 7, r), m.count(i % 7, r));
+                    break;
+                default:
+                    same("output", x.output(5 * r + i), m.output(5 * r + i));
+                    break;
             }
-            for (int i = 0; i < 12; i++) {
-                same("item", x.item(r, i), m.item(r, i));
-            }
-            for (int what = 0; what < 10; what++) {
-                same("of", x.of(r, what), m.of(r, what));
-            }
-            for (int what = 0; what < 7; what++) {
-                same("count", x.count(what, r), m.count(what, r));
-            }
-        }
-        for (int i = 0; i < 61; i++) {
-            same("output", x.output(i), m.output(i));
         }
     }
 }
